@@ -31,8 +31,11 @@ public final class PuppetTheatre {
     private static final int AFTER = 1;
     private static final int ENDED = 2;
     private static final int ALWAYS = 3;
-    /** What a STEP by ENDED and ALWAYS, both at once, is by. */
-    private static final int BY_ITSELF = 4;
+
+    /** What a STEP is by: 0 to 9 that event, else one of these. A ROW tells its calls likewise. */
+    private static final int TICK = 10;
+    private static final int ITSELF = 11;
+    private static final int CAUSES = 12;
 
     private static final int UNGUARDED = 0;
     private static final int LESS = 1;
@@ -46,8 +49,6 @@ public final class PuppetTheatre {
 
     private static final int MOST_LOOKED = 60;
     private static final int MOST_CALLS = 8;
-    /** How tick() of 1 is told in a ROW. */
-    private static final int TICK_CALL = 10;
     /** AGES from here on are the same for a look: no AFTER can tell them apart. */
     private static final int OLD_AGE = 50;
 
@@ -92,7 +93,7 @@ public final class PuppetTheatre {
             throw new IllegalArgumentException();
         }
         int before = whole.first;
-        whole.first = part;
+        whole.putFirst(part);
         return before;
     }
 
@@ -163,7 +164,7 @@ public final class PuppetTheatre {
         running = true;
         play.reset();
         play.enter(chart.filled(setOf(ROOT)));
-        return play.proceed(BY_ITSELF, 0);
+        return play.proceed(ITSELF);
     }
 
     /** Lets it not RUN any more and returns how many STATES were ACTIVE. */
@@ -179,7 +180,7 @@ public final class PuppetTheatre {
     public int send(int event) throws IllegalStateException, IllegalArgumentException {
         checkRunning();
         checkEvent(event);
-        return play.proceed(EVENT, event);
+        return play.proceed(event);
     }
 
     /** Lets ticks pass, as long as it is not OVER, and returns how many TRANSITIONS FIRED. */
@@ -190,7 +191,7 @@ public final class PuppetTheatre {
         }
         int count = 0;
         for (int passed = 0; passed < ticks; passed++) {
-            count += play.proceed(AFTER, 0);
+            count += play.proceed(TICK);
         }
         return count;
     }
@@ -309,7 +310,7 @@ public final class PuppetTheatre {
         checkRunning();
         checkEvent(event);
         trial.situation.copyFrom(play.situation);
-        return trial.proceed(EVENT, event);
+        return trial.proceed(event);
     }
 
     /** Returns the set of STATES that would be ACTIVE behind send(). */
@@ -317,7 +318,7 @@ public final class PuppetTheatre {
         checkRunning();
         checkEvent(event);
         trial.situation.copyFrom(play.situation);
-        trial.proceed(EVENT, event);
+        trial.proceed(event);
         return trial.situation.active;
     }
 
@@ -326,14 +327,14 @@ public final class PuppetTheatre {
         checkRunning();
         int set = 0;
         for (int event = 0; event < EVENTS; event++) {
-            if (play.openFor(EVENT, event) != 0) {
+            if (play.openBy(event) != 0) {
                 set |= setOf(event);
             }
         }
         return set;
     }
 
-    /** Looks for a shortest ROW to a STATE and returns how many calls it has; -1 if none is found. */
+    /** Looks for a shortest ROW to a STATE and returns how many calls it has; -1 without one. */
     public int rowTo(int state, int most)
             throws IllegalStateException, IndexOutOfBoundsException, IllegalArgumentException {
         checkRunning();
@@ -342,7 +343,7 @@ public final class PuppetTheatre {
         return look.search(play.situation, state, NONE, most);
     }
 
-    /** Looks for a shortest ROW that FIRES a TRANSITION and returns how many calls it has; or -1. */
+    /** Looks likewise for a shortest ROW whose last call FIRES a TRANSITION. */
     public int rowFor(int transition, int most)
             throws IllegalStateException, IndexOutOfBoundsException, IllegalArgumentException {
         checkRunning();
@@ -512,7 +513,10 @@ public final class PuppetTheatre {
         }
     }
 
-    /** A STATE; parts, beneath and departing (the TRANSITIONS from it) are sets. */
+    /**
+     * A STATE. What is FILLED with it is FIRST of a PLAIN one, and all PARTS of a BROAD one; that,
+     * parts, beneath and departing (the TRANSITIONS from it) are sets.
+     */
     private static final class State {
         final Action entering = new Action();
         final Action leaving = new Action();
@@ -520,6 +524,7 @@ public final class PuppetTheatre {
         int parent = NONE;
         int first = NONE;
         int parts;
+        int filledWith;
         int beneath;
         int departing;
 
@@ -529,6 +534,21 @@ public final class PuppetTheatre {
 
         boolean isHolder() {
             return kind == PLAIN || kind == BROAD;
+        }
+
+        void putFirst(int part) {
+            first = part;
+            filledWith = setOf(part);
+        }
+
+        void putPart(int part) {
+            if (kind == PLAIN && parts == 0) {
+                putFirst(part);
+            }
+            parts |= setOf(part);
+            if (kind == BROAD) {
+                filledWith = parts;
+            }
         }
     }
 
@@ -562,6 +582,8 @@ public final class PuppetTheatre {
     private static final class Chart {
         final State[] states = new State[MOST_STATES];
         final Transition[] transitions = new Transition[MOST_TRANSITIONS];
+        /** The sets of TRANSITIONS that can be OPEN in a STEP by each cause. */
+        final int[] causedBy = new int[CAUSES];
         int stateCount = 1;
         int transitionCount;
         int leaves = setOf(ROOT);
@@ -588,20 +610,13 @@ public final class PuppetTheatre {
                 }
             }
             if (!added.isMark()) {
-                putPart(states[parent], number);
+                states[parent].putPart(number);
                 leaves = leaves & ~setOf(parent) | setOf(number);
             }
             if (kind == END) {
                 ends |= setOf(number);
             }
             return number;
-        }
-
-        private static void putPart(State whole, int part) {
-            if (whole.kind == PLAIN && whole.parts == 0) {
-                whole.first = part;
-            }
-            whole.parts |= setOf(part);
         }
 
         int putTransition(int from, int trigger, int n, int to) {
@@ -613,8 +628,16 @@ public final class PuppetTheatre {
             added.to = to;
             added.scope = to == NONE ? NONE : scopeOf(from, to);
             states[from].departing |= setOf(number);
+            causedBy[causeOf(trigger, n)] |= setOf(number);
             transitionCount++;
             return number;
+        }
+
+        private static int causeOf(int trigger, int n) {
+            if (trigger == EVENT) {
+                return n;
+            }
+            return trigger == AFTER ? TICK : ITSELF;
         }
 
         private int scopeOf(int from, int to) {
@@ -632,15 +655,10 @@ public final class PuppetTheatre {
             int all = set;
             for (int s = 0; s < stateCount; s++) {
                 if (has(all, s)) {
-                    all |= states[s].kind == BROAD ? states[s].parts : setOfFirst(s);
+                    all |= states[s].filledWith;
                 }
             }
             return all;
-        }
-
-        /** FIRST of a STATE as a set; the empty one if it has none. */
-        int setOfFirst(int state) {
-            return states[state].first == NONE ? 0 : setOf(states[state].first);
         }
 
         /** The set of all that is ENTERED as one goes INTO the STATES of a set from a SCOPE. */
@@ -716,6 +734,11 @@ public final class PuppetTheatre {
             }
         }
 
+        void add(int variable, int n) {
+            int sum = variables[variable] + n;
+            variables[variable] = Math.max(-MOST_NUMBER, Math.min(MOST_NUMBER, sum));
+        }
+
         void copyFrom(Situation other) {
             active = other.active;
             System.arraycopy(other.ages, 0, ages, 0, ages.length);
@@ -747,6 +770,8 @@ public final class PuppetTheatre {
         final Chart chart;
         final Situation situation = new Situation();
         final int[] fired = new int[MOST_TRANSITIONS];
+        /** The set of TRANSITIONS that FIRED in the latest call (or tick). */
+        int firedLast;
         int clock;
         int lost;
         int restless;
@@ -776,23 +801,23 @@ public final class PuppetTheatre {
         }
 
         /**
-         * A STEP (with AFTER, a tick and its STEP), and then it SETTLES; nothing if it is OVER.
+         * A STEP (a tick ahead of it, if it is by that), and then it SETTLES; nothing if it is OVER.
          * Returns how many TRANSITIONS FIRED.
          */
-        int proceed(int trigger, int n) {
+        int proceed(int firstCause) {
+            firedLast = 0;
             if (isAtEnd()) {
                 loseQueue();
                 return 0;
             }
-            if (trigger == AFTER) {
+            if (firstCause == TICK) {
                 growOlder();
             }
-            int by = trigger;
-            int number = n;
+            int cause = firstCause;
             int count = 0;
             int firingSteps = 0;
             for (int round = 0; round < MOST_ROUNDS; round++) {
-                int now = step(by, number);
+                int now = step(cause);
                 count += now;
                 firingSteps += now > 0 ? 1 : 0;
                 if (isAtEnd()) {
@@ -804,11 +829,10 @@ public final class PuppetTheatre {
                     restless++;
                     return count;
                 }
-                if (now > 0 || by != BY_ITSELF) {
-                    by = BY_ITSELF;
+                if (now > 0 || cause != ITSELF) {
+                    cause = ITSELF;
                 } else if (queued > 0) {
-                    by = EVENT;
-                    number = nextEvent();
+                    cause = nextEvent();
                 } else {
                     return count;
                 }
@@ -822,6 +846,15 @@ public final class PuppetTheatre {
                 if (has(situation.active, s)) {
                     situation.ages[s]++;
                 }
+            }
+        }
+
+        private void raise(int event) {
+            if (queued < queue.length) {
+                queue[queued] = event;
+                queued++;
+            } else {
+                lost++;
             }
         }
 
@@ -841,8 +874,8 @@ public final class PuppetTheatre {
         }
 
         /** Returns how many TRANSITIONS FIRED. */
-        private int step(int trigger, int n) {
-            int open = openFor(trigger, n);
+        private int step(int cause) {
+            int open = openBy(cause);
             if (open == 0) {
                 return 0;
             }
@@ -857,38 +890,44 @@ public final class PuppetTheatre {
             for (int i = 0; i < takenCount; i++) {
                 Transition each = chart.transitions[taken[i]];
                 act(each.action);
-                entered |= enteredBy(each);
+                if (each.to != NONE) {
+                    entered |= chart.enteredInto(targetsOf(each), each.scope);
+                }
                 fired[taken[i]]++;
+                firedLast |= setOf(taken[i]);
             }
             enter(entered);
             return takenCount;
         }
 
-        /** The set of TRANSITIONS that are OPEN. */
-        int openFor(int trigger, int n) {
-            int ended = trigger == BY_ITSELF ? chart.endedAmong(situation.active) : 0;
-            int set = 0;
+        /** The set of TRANSITIONS that are OPEN in a STEP by a cause. */
+        int openBy(int cause) {
+            int caused = chart.causedBy[cause];
+            if (caused == 0) {
+                return 0;
+            }
+            int ended = chart.endedAmong(situation.active);
+            int open = 0;
             for (int t = 0; t < chart.transitionCount; t++) {
-                Transition each = chart.transitions[t];
-                if (has(situation.active, each.from)
-                        && isTriggered(each, trigger, n, ended)
-                        && each.isAllowed(situation.variables)) {
-                    set |= setOf(t);
+                if (has(caused, t) && isOpen(chart.transitions[t], ended)) {
+                    open |= setOf(t);
                 }
             }
-            return set;
+            return open;
         }
 
-        private boolean isTriggered(Transition each, int trigger, int n, int ended) {
+        /** Whether a TRANSITION is OPEN in a STEP by its cause. */
+        private boolean isOpen(Transition each, int ended) {
+            if (!has(situation.active, each.from) || !each.isAllowed(situation.variables)) {
+                return false;
+            }
             switch (each.trigger) {
-                case EVENT:
-                    return trigger == EVENT && each.n == n;
                 case AFTER:
-                    return trigger == AFTER && each.n == situation.ages[each.from];
+                    return situation.ages[each.from] == each.n;
                 case ENDED:
-                    return trigger == BY_ITSELF && has(ended, each.from);
+                    return has(ended, each.from);
                 default:
-                    return trigger == BY_ITSELF;
+                    return true;
             }
         }
 
@@ -916,13 +955,9 @@ public final class PuppetTheatre {
             return NONE;
         }
 
+        /** The smallest number of a set that is not empty: it has as many bits below it. */
         private static int smallestOf(int set) {
-            for (int k = 0; k < MOST_TRANSITIONS; k++) {
-                if (has(set, k)) {
-                    return k;
-                }
-            }
-            return NONE;
+            return Integer.bitCount((set & -set) - 1);
         }
 
         private void takeIfFree(int transition) {
@@ -982,21 +1017,17 @@ public final class PuppetTheatre {
             }
         }
 
-        /** The set of all that is ENTERED by a TRANSITION, behind all that is left. */
-        private int enteredBy(Transition each) {
-            if (each.to == NONE) {
-                return 0;
+        /** The set of STATES INTO which a TRANSITION to a STATE goes. */
+        private int targetsOf(Transition each) {
+            if (!chart.states[each.to].isMark()) {
+                return setOf(each.to);
             }
-            int targets = setOf(each.to);
-            if (chart.states[each.to].isMark()) {
-                int parent = chart.states[each.to].parent;
-                targets = situation.records[each.to];
-                if (targets == 0) {
-                    // going INTO FIRST of the SCOPE is the same as to FILL it
-                    targets = parent == each.scope ? chart.setOfFirst(parent) : setOf(parent);
-                }
+            if (situation.records[each.to] != 0) {
+                return situation.records[each.to];
             }
-            return chart.enteredInto(targets, each.scope);
+            int parent = chart.states[each.to].parent;
+            // going INTO FIRST of the SCOPE, which is PLAIN, is the same as to FILL it
+            return parent == each.scope ? chart.states[parent].filledWith : setOf(parent);
         }
 
         private void act(Action action) {
@@ -1005,17 +1036,10 @@ public final class PuppetTheatre {
                     situation.variables[action.what] = action.n;
                     break;
                 case ADD:
-                    int sum = situation.variables[action.what] + action.n;
-                    situation.variables[action.what] =
-                            Math.max(-MOST_NUMBER, Math.min(MOST_NUMBER, sum));
+                    situation.add(action.what, action.n);
                     break;
                 case RAISE:
-                    if (queued < queue.length) {
-                        queue[queued] = action.what;
-                        queued++;
-                    } else {
-                        lost++;
-                    }
+                    raise(action.what);
                     break;
                 default:
                     break;
@@ -1033,7 +1057,7 @@ public final class PuppetTheatre {
         int lookedAt;
         private final Play trial;
         private final Situation[] found = new Situation[MOST_LOOKED];
-        /** The place of the SITUATION from which each one came, by which call, and how many led to it. */
+        /** From which place each SITUATION came, by which call, and how many calls led to it. */
         private final int[] origin = new int[MOST_LOOKED];
         private final int[] byCall = new int[MOST_LOOKED];
         private final int[] calls = new int[MOST_LOOKED];
@@ -1057,10 +1081,15 @@ public final class PuppetTheatre {
             origin[0] = NONE;
             calls[0] = 0;
             foundCount = 1;
-            for (int place = 0; place < foundCount && calls[place] < most; place++) {
+            for (int place = 0; place < foundCount && place < MOST_LOOKED; place++) {
+                if (calls[place] >= most) {
+                    return NONE;
+                }
                 lookedAt++;
-                for (int call = 0; call <= TICK_CALL; call++) {
-                    if (isReached(place, call, state, transition)) {
+                for (int call = 0; call <= TICK; call++) {
+                    trial.situation.copyFrom(found[place]);
+                    trial.proceed(call);
+                    if (isReached(state, transition)) {
                         writeRow(place, call);
                         return rowLength;
                     }
@@ -1070,15 +1099,11 @@ public final class PuppetTheatre {
             return NONE;
         }
 
-        /** Tries a call from a SITUATION that was found. */
-        private boolean isReached(int place, int call, int state, int transition) {
-            int firedBefore = transition == NONE ? 0 : trial.fired[transition];
-            trial.situation.copyFrom(found[place]);
-            trial.proceed(call == TICK_CALL ? AFTER : EVENT, call);
-            if (transition == NONE) {
-                return has(trial.situation.active, state);
-            }
-            return trial.fired[transition] != firedBefore;
+        /** Whether the call tried just now comes to the STATE or FIRED the TRANSITION. */
+        private boolean isReached(int state, int transition) {
+            return transition == NONE
+                    ? has(trial.situation.active, state)
+                    : has(trial.firedLast, transition);
         }
 
         private void keepIfNew(int place, int call) {

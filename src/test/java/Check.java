@@ -25,7 +25,7 @@ final class Check {
         }
     }
 
-    /** The call throws just this class, and digest() and the answers of all rows stay as they are. */
+    /** The call throws just this class, and digest(), which is made of all answers, stays. */
     void dueThrow(PuppetTheatre x, String what, Class<? extends RuntimeException> want, Call call) {
         long before = x.digest();
         String got = "nothing";

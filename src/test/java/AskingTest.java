@@ -23,16 +23,8 @@ public final class AskingTest {
         check.end();
     }
 
-    private static PuppetTheatre chart(int... parentsAndKinds) {
-        PuppetTheatre x = new PuppetTheatre();
-        for (int i = 0; i < parentsAndKinds.length; i += 2) {
-            x.addState(parentsAndKinds[i], parentsAndKinds[i + 1]);
-        }
-        return x;
-    }
-
     private static void isRunning() {
-        PuppetTheatre x = chart(0, 2);
+        PuppetTheatre x = Check.chart(0, 2);
         check.due("a new one", x.isRunning(), false);
         x.start();
         check.due("STARTED, also if it is OVER", x.isRunning(), true);
@@ -41,7 +33,7 @@ public final class AskingTest {
     }
 
     private static void active() {
-        PuppetTheatre x = chart();
+        PuppetTheatre x = Check.chart();
         for (int s = 1; s < 20; s++) {
             x.addState(s - 1, 0);
         }
@@ -53,7 +45,7 @@ public final class AskingTest {
     }
 
     private static void isOver() {
-        PuppetTheatre x = chart(0, 0, 1, 0, 1, 2, 0, 2);
+        PuppetTheatre x = Check.chart(0, 0, 1, 0, 1, 2, 0, 2);
         x.addTransition(2, 0, 0, 3);
         x.addTransition(1, 0, 1, 4);
         check.due("ahead of start()", x.isOver(), false);
@@ -68,7 +60,7 @@ public final class AskingTest {
     }
 
     private static void isEnded() {
-        PuppetTheatre x = chart(0, 0, 1, 0, 1, 2, 0, 2, 2, 2);
+        PuppetTheatre x = Check.chart(0, 0, 1, 0, 1, 2, 0, 2, 2, 2);
         x.addTransition(1, 0, 0, 3);
         x.addTransition(1, 0, 1, 4);
         check.due("ahead of start()", x.isEnded(1), false);
@@ -89,7 +81,7 @@ public final class AskingTest {
 
     private static void isEndedOfBroad() {
         // 1 BROAD { 2 { 3, 4 END }, 5 BROAD { 6 { 7 END } }, 8 HISTORY }, 9 BROAD, 10 BROAD { 11 HISTORY }
-        PuppetTheatre x = chart(0, 1, 1, 0, 2, 0, 2, 2, 1, 1, 5, 0, 6, 2, 1, 3, 0, 1, 0, 1, 10, 3);
+        PuppetTheatre x = Check.chart(0, 1, 1, 0, 2, 0, 2, 2, 1, 1, 5, 0, 6, 2, 1, 3, 0, 1, 0, 1, 10, 3);
         x.addTransition(3, 0, 0, 4);
         x.addTransition(1, 0, 1, 9);
         x.addTransition(9, 0, 2, 10);
@@ -105,7 +97,7 @@ public final class AskingTest {
     }
 
     private static void ageOf() {
-        PuppetTheatre x = chart(0, 0, 0, 0);
+        PuppetTheatre x = Check.chart(0, 0, 0, 0);
         x.addTransition(1, 0, 0, 2);
         x.addTransition(2, 0, 0, 2);
         check.due("ahead of start()", x.ageOf(0), -1);
@@ -131,7 +123,7 @@ public final class AskingTest {
     }
 
     private static void record() {
-        PuppetTheatre x = chart(0, 0, 1, 3, 1, 4, 1, 0, 4, 0, 0, 0, 0, 2);
+        PuppetTheatre x = Check.chart(0, 0, 1, 3, 1, 4, 1, 0, 4, 0, 0, 0, 0, 2);
         x.addTransition(1, 0, 0, 6);
         check.due("ahead of start()", x.record(2), 0);
         x.start();
@@ -150,7 +142,7 @@ public final class AskingTest {
 
     /** The last leaving counts, and that of its PARENT alone. */
     private static void recordsAtEachLeaving() {
-        PuppetTheatre x = chart(0, 0, 1, 0, 1, 0, 1, 3, 0, 0, 1, 1);
+        PuppetTheatre x = Check.chart(0, 0, 1, 0, 1, 0, 1, 3, 0, 0, 1, 1);
         x.addTransition(2, 0, 0, 3);
         x.addTransition(1, 0, 1, 5);
         x.addTransition(5, 0, 2, 1);
@@ -170,7 +162,7 @@ public final class AskingTest {
     }
 
     private static void variable() {
-        PuppetTheatre x = chart();
+        PuppetTheatre x = Check.chart();
         x.setDoing(0, false, 1, 3, -99);
         check.due("ahead of start()", x.variable(3), 0);
         x.start();
@@ -184,7 +176,7 @@ public final class AskingTest {
     }
 
     private static void clock() {
-        PuppetTheatre x = chart();
+        PuppetTheatre x = Check.chart();
         x.start();
         x.tick(50);
         x.tick(1);
@@ -197,7 +189,7 @@ public final class AskingTest {
     }
 
     private static void firedAndCovered() {
-        PuppetTheatre x = chart();
+        PuppetTheatre x = Check.chart();
         x.addTransition(0, 0, 0, -1);
         x.addTransition(0, 0, 1, -1);
         x.addTransition(0, 0, 2, -1);
@@ -224,7 +216,7 @@ public final class AskingTest {
 
     /** What a look or a question would lose does not count. */
     private static void lost() {
-        PuppetTheatre x = chart(0, 0, 0, 2);
+        PuppetTheatre x = Check.chart(0, 0, 0, 2);
         x.addTransition(1, 0, 0, 2);
         x.setAction(0, 3, 9, 0);
         x.start();
@@ -241,7 +233,7 @@ public final class AskingTest {
     }
 
     private static void restless() {
-        PuppetTheatre x = chart();
+        PuppetTheatre x = Check.chart();
         x.addTransition(0, 3, 0, -1);
         check.due("ahead of start()", x.restless(), 0);
         check.due("start()", x.start(), 12);
@@ -260,7 +252,7 @@ public final class AskingTest {
     }
 
     private static void noSuch() {
-        PuppetTheatre x = chart(0, 3);
+        PuppetTheatre x = Check.chart(0, 3);
         int[] none = {-1, 2, 19, 20, 32, Integer.MAX_VALUE, Integer.MIN_VALUE};
         for (int s : none) {
             check.dueThrow(x, "isEnded(" + s + ")", INDEX, () -> x.isEnded(s));

@@ -7,6 +7,15 @@ final class Check {
 
     private int wrong;
 
+    /** A new object with the STATES of these PARENTS and kinds, one after the other. */
+    static PuppetTheatre chart(int... parentsAndKinds) {
+        PuppetTheatre x = new PuppetTheatre();
+        for (int i = 0; i + 1 < parentsAndKinds.length; i += 2) {
+            x.addState(parentsAndKinds[i], parentsAndKinds[i + 1]);
+        }
+        return x;
+    }
+
     void due(String what, long got, long want) {
         if (got != want) {
             tell(what + " answered " + got + ", due is " + want);

@@ -35,14 +35,6 @@ public final class LookTest {
         check.end();
     }
 
-    private static PuppetTheatre chart(int... parentsAndKinds) {
-        PuppetTheatre x = new PuppetTheatre();
-        for (int i = 0; i < parentsAndKinds.length; i += 2) {
-            x.addState(parentsAndKinds[i], parentsAndKinds[i + 1]);
-        }
-        return x;
-    }
-
     private static void dueRow(PuppetTheatre x, int... calls) {
         for (int place = 0; place < 9; place++) {
             int want = place < calls.length ? calls[place] : -1;
@@ -51,7 +43,7 @@ public final class LookTest {
     }
 
     private static void would() {
-        PuppetTheatre x = chart(0, 0, 0, 0, 1, 3, 0, 2);
+        PuppetTheatre x = Check.chart(0, 0, 0, 0, 1, 3, 0, 2);
         x.addTransition(1, 0, 0, 2);
         x.setAction(0, 1, 0, 5);
         x.addTransition(2, 3, 0, -1);
@@ -77,7 +69,7 @@ public final class LookTest {
     }
 
     private static void wouldWrongly() {
-        PuppetTheatre x = chart(0, 0);
+        PuppetTheatre x = Check.chart(0, 0);
         check.dueThrow(x, "wouldFire(99)", STATE, () -> x.wouldFire(99));
         check.dueThrow(x, "wouldBe(99)", STATE, () -> x.wouldBe(99));
         check.dueThrow(x, "open()", STATE, () -> x.open());
@@ -89,7 +81,7 @@ public final class LookTest {
     }
 
     private static void open() {
-        PuppetTheatre x = chart(0, 0, 0, 0, 0, 2);
+        PuppetTheatre x = Check.chart(0, 0, 0, 0, 0, 2);
         x.addTransition(1, 0, 0, 2);
         x.addTransition(0, 0, 9, -1);
         x.addTransition(2, 0, 3, 1);
@@ -107,7 +99,7 @@ public final class LookTest {
         x.send(7);
         check.due("isOver()", x.isOver(), true);
         check.due("also if it is OVER", x.open(), 1 << 9 | 1 << 8);
-        PuppetTheatre y = chart(0, 0);
+        PuppetTheatre y = Check.chart(0, 0);
         y.addTransition(1, 1, 1, -1);
         y.addTransition(0, 3, 0, -1);
         y.start();
@@ -116,7 +108,7 @@ public final class LookTest {
     }
 
     private static void rowTo() {
-        PuppetTheatre x = chart(0, 0, 0, 0, 0, 0, 0, 0);
+        PuppetTheatre x = Check.chart(0, 0, 0, 0, 0, 0, 0, 0);
         x.addTransition(1, 0, 3, 2);
         x.addTransition(2, 0, 5, 3);
         x.addTransition(1, 0, 7, 3);
@@ -142,7 +134,7 @@ public final class LookTest {
     }
 
     private static void rowToByTicks() {
-        PuppetTheatre x = chart(0, 0, 0, 0);
+        PuppetTheatre x = Check.chart(0, 0, 0, 0);
         x.addTransition(1, 1, 5, 2);
         x.start();
         check.due("rowTo(2, 4)", x.rowTo(2, 4), -1);
@@ -159,7 +151,7 @@ public final class LookTest {
     }
 
     private static void rowToWrongly() {
-        PuppetTheatre x = chart(0, 0, 0, 4);
+        PuppetTheatre x = Check.chart(0, 0, 0, 4);
         x.addTransition(1, 0, 3, -1);
         check.dueThrow(x, "rowTo(9, 9)", STATE, () -> x.rowTo(9, 9));
         x.start();
@@ -177,7 +169,7 @@ public final class LookTest {
 
     /** None to which most calls led is looked at. */
     private static void mostCalls() {
-        PuppetTheatre x = chart(0, 0, 0, 0, 0, 0);
+        PuppetTheatre x = Check.chart(0, 0, 0, 0, 0, 0);
         x.addTransition(1, 0, 0, 2);
         x.addTransition(2, 0, 0, 3);
         x.start();
@@ -188,7 +180,7 @@ public final class LookTest {
     }
 
     private static void sixtySituations() {
-        PuppetTheatre x = chart(0, 0, 0, 0);
+        PuppetTheatre x = Check.chart(0, 0, 0, 0);
         for (int e = 0; e < 10; e++) {
             x.addTransition(0, 0, e, -1);
             x.setAction(e, 2, e % 4, 1 + e / 4);
@@ -203,7 +195,7 @@ public final class LookTest {
         int[][] found = tuplesInOrder();
         for (int place = 58; place <= 61; place++) {
             int[] goal = found[place];
-            PuppetTheatre x = chart(0, 0, 0, 0);
+            PuppetTheatre x = Check.chart(0, 0, 0, 0);
             for (int e = 0; e < SETS.length; e++) {
                 x.addTransition(0, 0, e, -1);
                 x.setAction(e, 1, SETS[e][0], SETS[e][1]);
@@ -250,7 +242,7 @@ public final class LookTest {
 
     /** What was found before is not looked at again; the clock and what FIRED do not count. */
     private static void sameSituations() {
-        PuppetTheatre x = chart(0, 0, 0, 0, 0, 0);
+        PuppetTheatre x = Check.chart(0, 0, 0, 0, 0, 0);
         x.addTransition(1, 0, 0, 2);
         x.addTransition(2, 0, 0, 1);
         x.addTransition(0, 0, 1, -1);
@@ -266,7 +258,7 @@ public final class LookTest {
 
     /** AGES of 50 and more are the same: ticks come to nothing new. */
     private static void oldAges() {
-        PuppetTheatre x = chart(0, 0, 0, 0);
+        PuppetTheatre x = Check.chart(0, 0, 0, 0);
         x.start();
         x.tick(48);
         check.due("rowTo(2, 8)", x.rowTo(2, 8), -1);
@@ -280,7 +272,7 @@ public final class LookTest {
     }
 
     private static void agesTellApart() {
-        PuppetTheatre x = chart(0, 0, 0, 0);
+        PuppetTheatre x = Check.chart(0, 0, 0, 0);
         x.addTransition(1, 0, 4, 1);
         x.start();
         x.tick(49);
@@ -292,7 +284,7 @@ public final class LookTest {
 
     /** Behind 2, 0, 1 all is as it is now but the RECORD, and only from there the goal is come to. */
     private static void recordsTellApart() {
-        PuppetTheatre x = chart(0, 0, 1, 0, 1, 0, 1, 3, 0, 0, 0, 0);
+        PuppetTheatre x = Check.chart(0, 0, 1, 0, 1, 0, 1, 3, 0, 0, 0, 0);
         x.addTransition(2, 0, 0, 3);
         x.setAction(0, 1, 0, 1);
         x.addTransition(1, 0, 1, 5);
@@ -309,7 +301,7 @@ public final class LookTest {
     }
 
     private static void variablesTellApart() {
-        PuppetTheatre x = chart(0, 0, 0, 0);
+        PuppetTheatre x = Check.chart(0, 0, 0, 0);
         x.addTransition(1, 0, 0, -1);
         x.setAction(0, 2, 3, 1);
         x.addTransition(1, 0, 6, 2);
@@ -322,7 +314,7 @@ public final class LookTest {
     }
 
     private static void rowFor() {
-        PuppetTheatre x = chart(0, 0, 0, 0);
+        PuppetTheatre x = Check.chart(0, 0, 0, 0);
         x.addTransition(1, 0, 8, 2);
         x.addTransition(2, 1, 2, 1);
         x.addTransition(2, 0, 3, -1);
@@ -344,7 +336,7 @@ public final class LookTest {
 
     /** It FIRES in any STEP of the last call, ahead of others or behind them. */
     private static void rowForInALaterStep() {
-        PuppetTheatre x = chart(0, 0, 0, 0, 0, 0);
+        PuppetTheatre x = Check.chart(0, 0, 0, 0, 0, 0);
         x.addTransition(1, 0, 4, 2);
         x.addTransition(2, 3, 0, 3);
         x.addTransition(3, 3, 0, 1);
@@ -358,7 +350,7 @@ public final class LookTest {
 
     /** The call FIRES it, though nothing new comes of it. */
     private static void rowForFoundBefore() {
-        PuppetTheatre x = chart();
+        PuppetTheatre x = Check.chart();
         x.addTransition(0, 0, 6, -1);
         x.addTransition(0, 0, 6, -1);
         x.start();
@@ -370,7 +362,7 @@ public final class LookTest {
     }
 
     private static void rowForWrongly() {
-        PuppetTheatre x = chart(0, 0);
+        PuppetTheatre x = Check.chart(0, 0);
         x.addTransition(1, 0, 0, -1);
         check.dueThrow(x, "rowFor(9, 9)", STATE, () -> x.rowFor(9, 9));
         x.start();
@@ -381,7 +373,7 @@ public final class LookTest {
     }
 
     private static void rowAt() {
-        PuppetTheatre x = chart(0, 0, 0, 0);
+        PuppetTheatre x = Check.chart(0, 0, 0, 0);
         x.addTransition(1, 1, 8, 2);
         check.due("ahead of a look", x.rowAt(0), -1);
         x.start();
@@ -402,7 +394,7 @@ public final class LookTest {
     }
 
     private static void over() {
-        PuppetTheatre x = chart(0, 2, 0, 0);
+        PuppetTheatre x = Check.chart(0, 2, 0, 0);
         x.addTransition(0, 0, 0, -1);
         x.start();
         check.due("rowTo(1, 8)", x.rowTo(1, 8), 0);
@@ -413,7 +405,7 @@ public final class LookTest {
     }
 
     private static void meanAge() {
-        PuppetTheatre x = chart(0, 0, 1, 0, 1, 0);
+        PuppetTheatre x = Check.chart(0, 0, 1, 0, 1, 0);
         x.addTransition(2, 0, 0, 3);
         check.due("without any", x.meanAge(), 0.0);
         x.start();
@@ -460,7 +452,7 @@ public final class LookTest {
     }
 
     private static void digest() {
-        PuppetTheatre x = chart(0, 0, 1, 0, 1, 2, 1, 3, 0, 1, 5, 4, 0, 2);
+        PuppetTheatre x = Check.chart(0, 0, 1, 0, 1, 2, 1, 3, 0, 1, 5, 4, 0, 2);
         x.addTransition(2, 0, 0, 3);
         x.addTransition(1, 0, 1, 5);
         x.addTransition(5, 0, 2, 4);

@@ -47,18 +47,6 @@ public final class RunningTest {
         return sum;
     }
 
-    private static PuppetTheatre chart(int[]... parentsAndKinds) {
-        PuppetTheatre x = new PuppetTheatre();
-        for (int[] each : parentsAndKinds) {
-            x.addState(each[0], each[1]);
-        }
-        return x;
-    }
-
-    private static int[] in(int parent, int kind) {
-        return new int[] {parent, kind};
-    }
-
     private static void rootAlone() {
         PuppetTheatre x = new PuppetTheatre();
         x.addTransition(0, 0, 4, -1);
@@ -75,7 +63,7 @@ public final class RunningTest {
 
     /** It begins anew: variables, RECORDS, the clock, what FIRED, LOST and RESTLESS. */
     private static void start() {
-        PuppetTheatre x = chart(in(0, 0), in(0, 0), in(1, 0), in(1, 0), in(1, 3));
+        PuppetTheatre x = Check.chart(0, 0, 0, 0, 1, 0, 1, 0, 1, 3);
         x.addTransition(1, 0, 0, 2);
         x.addTransition(2, 3, 0, -1);
         x.setGuard(1, 3, 0, 98);
@@ -105,7 +93,7 @@ public final class RunningTest {
 
     /** FIRST of the ROOT is an END: nothing FIRES, and what was RAISED is LOST. */
     private static void startOver() {
-        PuppetTheatre x = chart(in(0, 2));
+        PuppetTheatre x = Check.chart(0, 2);
         x.setDoing(1, false, 3, 0, 0);
         x.setDoing(0, false, 3, 1, 0);
         x.addTransition(0, 3, 0, -1);
@@ -119,7 +107,7 @@ public final class RunningTest {
     }
 
     private static void stop() {
-        PuppetTheatre x = chart(in(0, 0), in(1, 0), in(1, 3), in(0, 0));
+        PuppetTheatre x = Check.chart(0, 0, 1, 0, 1, 3, 0, 0);
         x.addTransition(1, 0, 0, 4);
         x.setAction(0, 1, 2, 8);
         x.setDoing(4, true, 1, 2, 9);
@@ -144,7 +132,7 @@ public final class RunningTest {
     }
 
     private static void send() {
-        PuppetTheatre x = chart(in(0, 0), in(0, 0), in(0, 2));
+        PuppetTheatre x = Check.chart(0, 0, 0, 0, 0, 2);
         x.addTransition(1, 0, 0, 2);
         x.addTransition(2, 0, 9, 1);
         x.addTransition(2, 0, 5, 3);
@@ -163,7 +151,7 @@ public final class RunningTest {
     }
 
     private static void tick() {
-        PuppetTheatre x = chart(in(0, 0), in(0, 0));
+        PuppetTheatre x = Check.chart(0, 0, 0, 0);
         x.addTransition(1, 1, 3, 2);
         x.addTransition(2, 1, 2, 1);
         x.addTransition(0, 1, 50, -1);
@@ -186,7 +174,7 @@ public final class RunningTest {
     }
 
     private static void tickTillOver() {
-        PuppetTheatre x = chart(in(0, 0), in(0, 2));
+        PuppetTheatre x = Check.chart(0, 0, 0, 2);
         x.addTransition(1, 1, 7, 2);
         x.start();
         check.due("tick(50)", x.tick(50), 1);
@@ -201,7 +189,7 @@ public final class RunningTest {
     /** Left with the greatest numbers first, then the TRANSITION's ACTION, then ENTERED. */
     private static void orderOfActions() {
         // what is turned from ADD to SET step by step tells which ACTIONS came behind it
-        PuppetTheatre x = chart(in(0, 0), in(1, 0), in(0, 0), in(3, 0));
+        PuppetTheatre x = Check.chart(0, 0, 1, 0, 0, 0, 3, 0);
         x.addTransition(2, 0, 0, 4);
         x.setDoing(2, true, 1, 0, 1);
         x.setDoing(1, true, 2, 0, 10);
@@ -235,7 +223,7 @@ public final class RunningTest {
 
     /** From the LEAF upward, and there the smallest number; GUARDS are looked at ahead of ACTIONS. */
     private static void nearestIsChosen() {
-        PuppetTheatre x = chart(in(0, 0), in(1, 0), in(1, 0));
+        PuppetTheatre x = Check.chart(0, 0, 1, 0, 1, 0);
         x.addTransition(0, 0, 0, -1);
         x.addTransition(1, 0, 0, -1);
         x.addTransition(2, 0, 0, -1);
@@ -257,7 +245,7 @@ public final class RunningTest {
 
     /** A SCOPE is above both STATES, so a STATE is left and ENTERED anew. */
     private static void selfAndOutward() {
-        PuppetTheatre x = chart(in(0, 0), in(1, 0), in(1, 0));
+        PuppetTheatre x = Check.chart(0, 0, 1, 0, 1, 0);
         x.addTransition(1, 0, 0, 1);
         x.addTransition(1, 0, 1, 3);
         x.addTransition(3, 0, 2, 1);
@@ -280,8 +268,8 @@ public final class RunningTest {
 
     /** 1 BROAD { 2 { 3, 4 }, 5 { 6, 7 }, 8 BROAD { 9, 10 } }, 11. */
     private static PuppetTheatre broad() {
-        return chart(in(0, 1), in(1, 0), in(2, 0), in(2, 0), in(1, 0), in(5, 0), in(5, 0), in(1, 1),
-                in(8, 0), in(8, 0), in(0, 0));
+        return Check.chart(0, 1, 1, 0, 2, 0, 2, 0, 1, 0, 5, 0, 5, 0, 1, 1,
+                8, 0, 8, 0, 0, 0);
     }
 
     private static void broadWays() {
@@ -337,8 +325,8 @@ public final class RunningTest {
 
     /** What was taken and is not any more stands in nobody's way. */
     private static void innerOneWinsLater() {
-        PuppetTheatre x = chart(in(0, 1), in(1, 1), in(2, 0), in(2, 0), in(4, 0), in(4, 0), in(1, 0),
-                in(7, 0), in(7, 0), in(0, 0));
+        PuppetTheatre x = Check.chart(0, 1, 1, 1, 2, 0, 2, 0, 4, 0, 4, 0, 1, 0,
+                7, 0, 7, 0, 0, 0);
         // LEAF 3 brings 0 (of 2, out of all), LEAF 5 brings 1 (of 5, for 0), LEAF 8 brings 2
         x.addTransition(2, 0, 0, 10);
         x.addTransition(5, 0, 0, 6);
@@ -435,7 +423,7 @@ public final class RunningTest {
     }
 
     private static void shallowHistory() {
-        PuppetTheatre x = chart(in(0, 0), in(1, 0), in(1, 0), in(3, 0), in(3, 0), in(1, 3), in(0, 0));
+        PuppetTheatre x = Check.chart(0, 0, 1, 0, 1, 0, 3, 0, 3, 0, 1, 3, 0, 0);
         x.addTransition(2, 0, 0, 5);
         x.addTransition(1, 0, 1, 7);
         x.addTransition(7, 0, 2, 6);
@@ -450,8 +438,8 @@ public final class RunningTest {
     }
 
     private static void deepHistory() {
-        PuppetTheatre x = chart(in(0, 0), in(1, 0), in(1, 1), in(3, 0), in(4, 0), in(4, 0), in(3, 0),
-                in(1, 4), in(0, 0));
+        PuppetTheatre x = Check.chart(0, 0, 1, 0, 1, 1, 3, 0, 4, 0, 4, 0, 3, 0,
+                1, 4, 0, 0);
         x.addTransition(2, 0, 0, 6);
         x.addTransition(1, 0, 1, 9);
         x.addTransition(9, 0, 2, 8);
@@ -472,7 +460,7 @@ public final class RunningTest {
 
     /** The RECORD is made in the very STEP that goes INTO it. */
     private static void historyOfBroad() {
-        PuppetTheatre x = chart(in(0, 1), in(1, 0), in(2, 0), in(2, 0), in(1, 0), in(1, 4), in(1, 3));
+        PuppetTheatre x = Check.chart(0, 1, 1, 0, 2, 0, 2, 0, 1, 0, 1, 4, 1, 3);
         x.addTransition(3, 0, 0, 4);
         x.addTransition(4, 0, 1, 6);
         x.addTransition(4, 0, 2, 7);
@@ -491,7 +479,7 @@ public final class RunningTest {
     }
 
     private static void historyWithoutRecord() {
-        PuppetTheatre x = chart(in(0, 0), in(0, 0), in(2, 0), in(2, 0), in(2, 3), in(0, 3), in(2, 0));
+        PuppetTheatre x = Check.chart(0, 0, 0, 0, 2, 0, 2, 0, 2, 3, 0, 3, 2, 0);
         x.addTransition(1, 0, 0, 5);
         x.addTransition(4, 0, 1, 5);
         x.addTransition(3, 0, 2, 4);
@@ -515,7 +503,7 @@ public final class RunningTest {
 
     /** A STATE with MARKS alone is a LEAF; their RECORDS are empty, so they are none. */
     private static void marksOnly() {
-        PuppetTheatre x = chart(in(0, 0), in(1, 3), in(1, 4), in(0, 0));
+        PuppetTheatre x = Check.chart(0, 0, 1, 3, 1, 4, 0, 0);
         x.addTransition(1, 0, 0, 4);
         x.addTransition(4, 0, 1, 2);
         x.addTransition(4, 0, 2, 3);
@@ -532,7 +520,7 @@ public final class RunningTest {
     }
 
     private static void ended() {
-        PuppetTheatre x = chart(in(0, 1), in(1, 0), in(2, 0), in(2, 2), in(1, 0), in(5, 0), in(5, 2), in(0, 0));
+        PuppetTheatre x = Check.chart(0, 1, 1, 0, 2, 0, 2, 2, 1, 0, 5, 0, 5, 2, 0, 0);
         x.addTransition(3, 0, 0, 4);
         x.addTransition(6, 0, 1, 7);
         x.addTransition(1, 2, 0, 8);
@@ -549,7 +537,7 @@ public final class RunningTest {
 
     /** RAISED events come one by one, each behind what FIRES by itself. */
     private static void queue() {
-        PuppetTheatre x = chart(in(0, 0), in(0, 0), in(0, 0));
+        PuppetTheatre x = Check.chart(0, 0, 0, 0, 0, 0);
         x.addTransition(1, 0, 0, 2);
         x.setAction(0, 3, 5, 0);
         x.setDoing(1, true, 3, 4, 0);
@@ -591,7 +579,7 @@ public final class RunningTest {
     }
 
     private static void queueIsLostAsOver() {
-        PuppetTheatre x = chart(in(0, 0), in(0, 2));
+        PuppetTheatre x = Check.chart(0, 0, 0, 2);
         x.addTransition(1, 0, 0, 2);
         x.setDoing(1, true, 3, 1, 0);
         x.setAction(0, 3, 1, 0);
@@ -607,7 +595,7 @@ public final class RunningTest {
     /** Behind the 12th STEP that FIRES it stops, also if nothing would FIRE any more. */
     private static void restless() {
         for (int most = 10; most <= 13; most++) {
-            PuppetTheatre x = chart(in(0, 0), in(0, 0));
+            PuppetTheatre x = Check.chart(0, 0, 0, 0);
             x.addTransition(1, 0, 0, 2);
             x.setAction(0, 3, 7, 0);
             x.addTransition(2, 3, 0, -1);
@@ -626,7 +614,7 @@ public final class RunningTest {
 
     /** Each tick has its own twelve STEPS, and further ones come all the same. */
     private static void restlessTicks() {
-        PuppetTheatre x = chart(in(0, 0), in(0, 0));
+        PuppetTheatre x = Check.chart(0, 0, 0, 0);
         x.addTransition(1, 1, 1, 2);
         x.addTransition(2, 3, 0, -1);
         x.setAction(1, 2, 0, 1);
@@ -640,7 +628,7 @@ public final class RunningTest {
 
     /** OVER by the 12th STEP: it is not RESTLESS. */
     private static void overAtTwelfth() {
-        PuppetTheatre x = chart(in(0, 0), in(0, 2));
+        PuppetTheatre x = Check.chart(0, 0, 0, 2);
         x.addTransition(1, 3, 0, -1);
         x.setGuard(0, 1, 0, 11);
         x.setAction(0, 2, 0, 1);

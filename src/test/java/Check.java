@@ -1,10 +1,5 @@
 /** What the tests say of an answer, and how they end. */
 final class Check {
-    /** A call that is to throw. */
-    interface Call {
-        void make();
-    }
-
     private int wrong;
 
     /** A new object with the STATES of these PARENTS and kinds, one after the other. */
@@ -14,6 +9,15 @@ final class Check {
             x.addState(parentsAndKinds[i], parentsAndKinds[i + 1]);
         }
         return x;
+    }
+
+    /** A set as the document tells it. */
+    static int set(int... members) {
+        int sum = 0;
+        for (int k : members) {
+            sum |= 1 << k;
+        }
+        return sum;
     }
 
     void due(String what, long got, long want) {
@@ -34,20 +38,26 @@ final class Check {
         }
     }
 
-    /** The call throws just this class, and digest(), which is made of all answers, stays. */
-    void dueThrow(PuppetTheatre x, String what, Class<? extends RuntimeException> want, Call call) {
-        long before = x.digest();
+    void due(String what, String got, String want) {
+        if (!got.equals(want)) {
+            tell(what + " answered " + got + ", due is " + want);
+        }
+    }
+
+    void dueThrow(String what, Class<?> want, Runnable call) {
         String got = "nothing";
         try {
-            call.make();
+            call.run();
         } catch (RuntimeException e) {
             got = e.getClass().getName();
         }
-        if (!got.equals(want.getName())) {
-            tell(what + " threw " + got + ", due is " + want.getName());
-        }
-        if (x.digest() != before) {
-            tell(what + " changed something");
+        due(what, got, want.getName());
+    }
+
+    /** The ROW has these calls and none behind them. */
+    void dueRow(PuppetTheatre x, int... calls) {
+        for (int place = 0; place < 9; place++) {
+            due("rowAt(" + place + ")", x.rowAt(place), place < calls.length ? calls[place] : -1);
         }
     }
 
